@@ -302,6 +302,10 @@ public final class PromiseTests {
         fault(0, "map 0 1", 6);
         fault(0, "mapp 0", 0);
         fault(0, "ma", 0);
+        fault(0, "mapz 0", 0);
+        fault(0, "mapa 0", 0);
+        fault(0, "map 0 when time above 990", NONE);
+        fault(0, "map 0 when time above 199", NONE);
         fault(0, "Map 0", 0);
         fault(0, "maP 0", 0);
         fault(0, "map x", 4);
@@ -526,6 +530,11 @@ public final class PromiseTests {
             due("14 no stand", x.parts(test), 0);
         }
         due("14 a test that holds nowhere on roads", roadFarFromStand().parts(10), 32);
+        CleanStand y = new CleanStand();
+        y.tick(5, 10, 0, 0, 0, 0);
+        y.drive(0, 1, 0);
+        y.tick(0, 9, 0, 0, 0, 0);
+        due("14 the first drive, above", y.parts(11), 1);
     }
 
     private static CleanStand roadFarFromStand() {
@@ -740,6 +749,26 @@ public final class PromiseTests {
         loads(y, 5, 0, 0, 9);
         lawed(y, 0, "gram 899;gram 900;gram 300");
         due("21 some stand, not all together", y.breaks(0, 0), 1 + 4);
+        loads(y, 1, 1, 0, 1);
+        lawed(y, 0, "road 100;road 99;gram 100");
+        due("21 100 hundredths of 100 hundredths are not more than 1", y.breaks(0, 0), 2 + 4);
+        breaksByTests();
+    }
+
+    private static void breaksByTests() {
+        CleanStand x = lawed(new CleanStand(), 1, "ban time;ban wheel;ban turned;ban height;ban heat;ban speed;ban load;ban soot");
+        String[] words = {"time", "wheel", "turned", "height", "heat", "speed", "load", "soot"};
+        for (int reading = 0; reading < 8; reading++) {
+            programmed(x, 0, "map 0 when " + words[reading] + " below 5");
+            due("21 ban " + words[reading], x.breaks(0, 1), 1 << reading);
+            programmed(x, 0, "map 0;map 1 when time above 1 and " + words[reading] + " below 5");
+            due("21 ban time, " + words[reading], x.breaks(0, 1), 1 | 1 << reading);
+        }
+        programmed(x, 0, "map 0 when soot above 1 and load above 1 and heat above 1 and speed above 1;map 1");
+        due("21 ban four", x.breaks(0, 1), 16 + 32 + 64 + 128);
+        programmed(x, 0, "map 0");
+        due("21 no tests", x.breaks(0, 1), 0);
+        due("21 no program", x.breaks(1, 1), 0);
     }
 
     private static void cold() {
@@ -806,6 +835,8 @@ public final class PromiseTests {
         due("24 saves", x.saves(0, 2), 21);
         due("24 below 0", x.saves(2, 0), -21);
         due("24 itself", x.saves(2, 2), 0);
+        loads(x, 0, 1, 0, 1, 1, 1);
+        due("24 the first drive", x.saves(0, 2), 42);
         due("24 unknown", x.saves(4, 0), LEAST);
         due("24 unknown", x.saves(0, 4), LEAST);
         due("24 unknown", x.saves(-1, 0), LEAST);
@@ -874,6 +905,13 @@ public final class PromiseTests {
         due("26 there is none", x.fix(2, 0, 1), 99999);
         due("26 another land has no law", x.fix(3, 1, 0), 2);
         due("26 another land has no law", x.fix(3, 1, 1), 0);
+        programmed(x, 3, "map 2");
+        due("26 to the last one", x.fix(1, 0, 0), 3);
+        due("26 to the last one", x.fix(1, 0, 1), 24);
+        programmed(x, 0, "map 1");
+        x.cars(0, 1, 3);
+        due("26 to the first one", x.fix(1, 0, 0), 0);
+        due("26 to the first one", x.fix(1, 0, 1), 23);
         due("26 unknown", x.fix(4, 0, 0), UNKNOWN);
         due("26 unknown", x.fix(0, 2, 0), UNKNOWN);
         due("26 unknown", x.fix(-1, 0, 9), UNKNOWN);
@@ -1115,11 +1153,13 @@ public final class PromiseTests {
         x.ask(0, 0, 0);
         x.ask(0, 0, 0);
         x.tell(3);
+        due("35 told", x.count(4), 1);
+        x.tell(0);
         due("35 month", x.count(0), 7);
         due("35 bytes", x.count(1), 3);
         due("35 measures", x.count(2), 2);
         due("35 asked", x.count(3), 4);
-        due("35 told", x.count(4), 1);
+        due("35 told", x.count(4), 2);
         due("35 ticks", x.count(5), 6);
         due("35 outside", x.count(6), OUTSIDE);
         due("35 outside", x.count(-1), OUTSIDE);
