@@ -1,49 +1,5 @@
 /** For each promise of the document: ordinary inputs, the edges it names, and wrong inputs. */
-public final class PromiseTests {
-    private static final int NONE = -1, UNKNOWN = -2, OUTSIDE = -3, NOT = -4, FULL = -5;
-    private static final int LEAST = Integer.MIN_VALUE, MOST = Integer.MAX_VALUE;
-    private static int passed = 0;
-    private static int failed = 0;
-
-    private static void due(String call, long got, long want) {
-        if (got == want) {
-            passed++;
-        } else {
-            failed++;
-            System.out.println(call + " answered " + got + ", due is " + want);
-        }
-    }
-
-    private static CleanStand written(CleanStand x, String text) {
-        for (int i = 0; i < text.length(); i++) {
-            x.write(text.charAt(i), 1);
-        }
-        return x;
-    }
-
-    private static CleanStand programmed(CleanStand x, int version, String text) {
-        if (written(x, text).program(version) < 1) {
-            throw new IllegalStateException(text);
-        }
-        return x;
-    }
-
-    private static CleanStand lawed(CleanStand x, int land, String text) {
-        if (written(x, text).law(land) < 1) {
-            throw new IllegalStateException(text);
-        }
-        return x;
-    }
-
-    /** A drive of one sort with the loads told, at speed 0. */
-    private static CleanStand loads(CleanStand x, int drive, int sort, int street, int... loads) {
-        x.drive(drive, sort, street);
-        for (int load : loads) {
-            x.tick(drive, 0, load, 0, 0, 0);
-        }
-        return x;
-    }
-
+public final class PromiseTests extends Checks {
     public static void main(String[] args) {
         newObject();
         drive();
@@ -81,10 +37,7 @@ public final class PromiseTests {
         known();
         comes();
         count();
-        System.out.println("PromiseTests: " + passed + " passed, " + failed + " failed");
-        if (failed != 0) {
-            System.exit(1);
-        }
+        end("PromiseTests");
     }
 
     private static void newObject() {
