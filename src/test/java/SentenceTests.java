@@ -393,6 +393,12 @@ public final class SentenceTests extends Checks {
         is("a digit ends a row of letters", fault(0, "ma1"), 0);
         is("a letter ends a row of digits", fault(0, "map 1x"), 5);
         is("the first of several", fault(0, "map 9 whn"), 4);
+        String[] misplaced = {"5", "map", "below", "heat", "==", "grams", "roa"};
+        for (String token : misplaced) {
+            is("no line of a law begins with " + token, fault(1, token), 0);
+            is("nor a second one", fault(1, "gram 5;" + token + " 5"), 7);
+            is("no line of a program either", fault(0, "map 0;" + (token.equals("map") ? "5" : token)), 6);
+        }
         says(0, "a number out of its bounds also");
         is("of a program", fault(0, "map 0;map 7"), 10);
         is("of a law", fault(1, "gram 1;road 1000"), 12);
@@ -971,6 +977,12 @@ public final class SentenceTests extends Checks {
         x.cost(2, 0);
         is("none of those that cost nothing beside", x.looks(0, 0), 2);
         is("one that none need look at", loads(fresh(), 4, 0, 0, 0).looks(0, 0), 0);
+        CleanStand free = oneTick(0, 9);
+        for (int drive = 0; drive < DRIVES; drive++) {
+            free.cost(drive, 0);
+        }
+        is("where none costs anything", free.looks(0, 0), 1);
+        is("where none costs anything and none is caught", free.looks(900, 0), 0);
     }
 
     // ---- Terms: months, streets
